@@ -1,0 +1,136 @@
+import java.lang.reflect.Constructor;
+import java.lang.reflect.Field;
+import java.lang.reflect.Method;
+import java.lang.reflect.Modifier;
+import java.nio.file.Files;
+import java.nio.file.Path;
+import java.util.Map;
+import java.util.TreeMap;
+import java.util.TreeSet;
+import java.util.regex.Matcher;
+import java.util.regex.Pattern;
+
+/** The face of the document, and what of LANGUAGE.md can be seen by looking. */
+public final class LanguageTest {
+    private static final String[] FACE = {
+        "int row(int,int,int)", "int set(int,int,int)", "int copy(int,int,int,int,int)", "int drop(int)",
+        "int feed(int)", "int yard()", "int fault()", "int undo()", "int lift(int,int)", "int loosen(int)",
+        "int fall(int)", "int space(int,int)", "int bike(int,int)", "int hold(int,int)", "int takes(int,int,int)",
+        "int stand(int)", "int soonest(int,int)", "int gentlest(int,int)", "int never(int)", "int fetch(int)",
+        "int layer(int)", "int fell(int,int)", "int first(int,int)", "int widen(int,int)",
+        "int plan(int,int,int,int)", "int who(int,int,int,int)", "long seen(int,int,int,int)",
+        "int drawn(int,int,int)", "int image(int)", "int restore(int)", "int kind(int)", "int as(int,int)",
+        "int ask(int,int)", "int trace(int)", "int count(int)", "int status()",
+    };
+
+    public static void main(String[] args) throws Exception {
+        face();
+        classes();
+        source(Files.readString(Path.of("src/main/java/NineDown.java")));
+        Due.end();
+    }
+
+    private static void is(String what, boolean so) {
+        Due.due(what, so ? 1 : 0, 1);
+    }
+
+    private static String shown(Method m) {
+        StringBuilder t = new StringBuilder(m.getReturnType().getName()).append(' ').append(m.getName()).append('(');
+        for (Class<?> p : m.getParameterTypes()) {
+            t.append(t.charAt(t.length() - 1) == '(' ? "" : ",").append(p.getName());
+        }
+        return t.append(')').toString();
+    }
+
+    private static void face() throws Exception {
+        TreeSet<String> wanted = new TreeSet<>(java.util.List.of(FACE));
+        TreeSet<String> there = new TreeSet<>();
+        TreeSet<String> names = new TreeSet<>();
+        for (Method m : NineDown.class.getDeclaredMethods()) {
+            if (Modifier.isPublic(m.getModifiers())) {
+                there.add(shown(m));
+                names.add(m.getName());
+            }
+        }
+        is("the public methods are " + wanted + ", not " + there, wanted.equals(there));
+        for (Method m : NineDown.class.getDeclaredMethods()) {
+            boolean open = Modifier.isPublic(m.getModifiers());
+            is(m + " is public or private", open || Modifier.isPrivate(m.getModifiers()));
+            is(m + " has a name of its own", open || !names.contains(m.getName()));
+        }
+        for (Class<?> c : NineDown.class.getDeclaredClasses()) {
+            for (Method m : c.getDeclaredMethods()) {
+                is(m + " has a name of its own", !names.contains(m.getName()));
+            }
+        }
+        Constructor<?>[] made = NineDown.class.getDeclaredConstructors();
+        is("one public constructor", made.length == 1 && Modifier.isPublic(made[0].getModifiers()));
+        is("public and final", NineDown.class.getModifiers() == (Modifier.PUBLIC | Modifier.FINAL));
+        int constants = 0;
+        for (Field f : NineDown.class.getDeclaredFields()) {
+            boolean open = Modifier.isPublic(f.getModifiers());
+            constants += open ? 1 : 0;
+            is(f + " is public or private", open || Modifier.isPrivate(f.getModifiers()));
+        }
+        is("four public constants", constants == 4);
+        Due.due("NONE", NineDown.NONE, -1000000);
+        Due.due("BAD", NineDown.BAD, -1000001);
+        Due.due("STATE", NineDown.STATE, -1000002);
+        Due.due("FULL", NineDown.FULL, -1000003);
+    }
+
+    private static void classes() {
+        Class<?>[] inside = NineDown.class.getDeclaredClasses();
+        is("at most twelve classes", inside.length + 1 <= 12);
+        for (Class<?> c : inside) {
+            is(c + " is static", Modifier.isStatic(c.getModifiers()));
+            is(c + " has none inside", c.getDeclaredClasses().length == 0);
+            int fields = 0;
+            for (Field f : c.getDeclaredFields()) {
+                boolean fixed = Modifier.isStatic(f.getModifiers());
+                fields += fixed ? 0 : 1;
+                is(f + " is final", !fixed || Modifier.isFinal(f.getModifiers()));
+            }
+            is(c + " has at most twenty fields", fields <= 20);
+            for (Method m : c.getDeclaredMethods()) {
+                is(m + " takes at most seven", m.getParameterCount() <= 7);
+            }
+        }
+    }
+
+    private static void source(String text) {
+        String code = text.replaceAll("(?s)/\\*.*?\\*/", " ").replaceAll("//[^\n]*", " ");
+        String[] banned = {
+            "\\bthrow\\b", "\\bthrows\\b", "\\btry\\b", "\\bcatch\\b", "\\bsynchronized\\b", "\\bassert\\b",
+            "->", "::", "\\bimport\\b", "\\bpackage\\b", "@", "Exact\\b",
+            "\\bObject\\b", "\\bSystem\\.(?!arraycopy)", "\\bstatic\\s*\\{", "\"",
+        };
+        for (String pattern : banned) {
+            Matcher found = Pattern.compile(pattern).matcher(code);
+            is("no " + pattern, !found.find());
+        }
+        for (int i = 0; i < text.length(); i++) {
+            if (text.charAt(i) > 127) {
+                is("sign " + i + " is none of 1 to 127", false);
+            }
+        }
+        lengths(code);
+    }
+
+    private static void lengths(String code) {
+        Map<String, Integer> lengths = new TreeMap<>();
+        String[] lines = code.split("\n");
+        Pattern head = Pattern.compile("^( {4}| {8})\\S.*\\) \\{$");
+        for (int i = 0; i < lines.length; i++) {
+            Matcher m = head.matcher(lines[i]);
+            int end = i;
+            while (m.matches() && !lines[end].equals(m.group(1) + "}")) {
+                end++;
+            }
+            lengths.put(lines[i] + i, end - i + 1);
+        }
+        for (Map.Entry<String, Integer> one : lengths.entrySet()) {
+            is(one.getKey() + " has " + one.getValue() + " lines", one.getValue() <= 60);
+        }
+    }
+}
