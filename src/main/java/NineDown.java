@@ -1186,7 +1186,6 @@ public final class NineDown {
             }
             sort[kept] = ofSort;
             thing[kept] = ofThing;
-            gapBefore[kept] = 0;
             seconds[kept] = tookSeconds;
             falls[kept] = hadFalls;
             kept++;

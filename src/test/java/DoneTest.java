@@ -10,6 +10,7 @@ public final class DoneTest {
         stands();
         undoes();
         forgets();
+        forgetsEachRow();
         images();
         Due.end();
     }
@@ -212,12 +213,53 @@ public final class DoneTest {
         Due.due("hold", x.hold(2, 3), 0);
     }
 
+    /** More ACTS than are kept, of all sorts, by turns (of six: not as many as are forgotten); each undoing brings back just what stood ahead of it. */
+    private static void forgetsEachRow() {
+        NineDown x = Due.told(Due.FIVE);
+        int[][] stood = new int[29][];
+        for (int i = 0; i < 29; i++) {
+            stood[i] = standing(x);
+            switch (i % 6) {
+                case 0: x.lift(2, 0); break;
+                case 1: x.space(i % 5, 1 + i % 20); break;
+                case 2: x.lift(i % 4 == 0 ? 1 : 2, 4); break;
+                case 3: x.fall(0); break;
+                case 4: x.space(2, 20 - i % 20); break;
+                default: x.fall(4); break;
+            }
+        }
+        for (int i = 28; i >= 5; i--) {
+            Due.due("undo", x.undo(), i - 5);
+            int[] now = standing(x);
+            for (int k = 0; k < now.length; k++) {
+                Due.due("ahead of act " + i + ", " + k, now[k], stood[i][k]);
+            }
+        }
+        Due.due("no more", x.undo(), Due.STATE);
+    }
+
+    private static int[] standing(NineDown x) {
+        int[] now = new int[8];
+        for (int what = 0; what < 3; what++) {
+            now[what] = x.stand(what);
+        }
+        for (int bike = 0; bike < 5; bike++) {
+            now[3 + bike] = x.bike(bike, 1);
+        }
+        return now;
+    }
+
     private static void images() {
         NineDown x = new NineDown();
         Due.due("no yard", x.image(0), Due.STATE);
         Due.due("BAD ahead of STATE", x.image(2), Due.BAD);
         Due.due("none kept", x.restore(1), Due.STATE);
-        Due.due("BAD ahead of STATE", x.restore(-1), Due.BAD);
+        for (int k = -2; k <= 4; k++) {
+            if (k < 0 || k > 1) {
+                Due.due("BAD ahead of STATE", x.image(k), Due.BAD);
+                Due.due("BAD ahead of STATE", x.restore(k), Due.BAD);
+            }
+        }
         Due.tell(x, Due.FIVE);
         x.lift(0, 0);
         x.loosen(2);
@@ -228,8 +270,11 @@ public final class DoneTest {
         x.undo();
         x.undo();
         x.lift(2, 3);
+        Due.tell(x, "y1,0,0;k7,1;k7,1;k7,1;c0,2;c1,2;o2,0;o2,1;");
+        x.loosen(0);
         Due.tell(x, "y1,0,0;k7,1;");
         Due.due("image", x.image(1), 1);
+        x.space(0, 9);
         Due.due("restore", x.restore(0), 1);
         same(x, "as kept", 14, 1, 30);
         Due.due("bikes", x.count(1), 5);
@@ -239,6 +284,15 @@ public final class DoneTest {
         Due.due("hold", x.hold(2, 3), 1);
         Due.due("catches", x.bike(3, 4), 0);
         Due.due("kind", x.kind(3), 5);
+        int[][] holds = {{0, 0, 1, 0}, {0, 1, 2, 0}, {1, 1, 3, 1}, {1, 0, 4, 0}};
+        for (int hold = 0; hold < 4; hold++) {
+            for (int what = 0; what < 4; what++) {
+                Due.due("hold(" + hold + ", " + what + ")", x.hold(hold, what), holds[hold][what]);
+            }
+        }
+        Due.due("the law's REACH", x.fell(3, 1), 24);
+        Due.due("the law's NOTE", x.takes(3, 3, 0), 8);
+        Due.due("lies on", x.layer(2), 1);
         Due.due("no act", x.count(6), 0);
         Due.due("no act", x.undo(), Due.STATE);
         x.lift(3, 3);

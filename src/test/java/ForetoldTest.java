@@ -78,6 +78,9 @@ public final class ForetoldTest {
         Due.due("the least lifter", y.soonest(3, 1), 0);
         Due.due("but this falls", y.gentlest(3, 2), 10);
         Due.due("the rest by either", y.gentlest(3, 1), 15);
+        NineDown z = Due.told("y1,0,0;k6,1;k6,1;k6,1;o1,0;o2,1;g1;p3;");
+        Due.due("the bike's number counts", z.soonest(2, 1), 12);
+        Due.due("the bike's number counts", z.gentlest(3, 2), 12);
     }
 
     private static void nevers() {
@@ -112,6 +115,9 @@ public final class ForetoldTest {
         NineDown w = Due.told("y1,0,0;k10,1;t9;");
         Due.due("none", w.fetch(0), Due.NONE);
         Due.due("none", w.fetch(1), Due.NONE);
+        NineDown u = Due.told("y1,0,0;k10,1;g9;g10;");
+        Due.due("a later one alone", u.fetch(0), 1);
+        Due.due("a later one alone", u.fetch(1), 2);
         NineDown v = Due.told("y1,0,0;k9,1;t9;");
         v.lift(0, 0);
         Due.due("all are UP", v.fetch(0), 0);
@@ -305,6 +311,13 @@ public final class ForetoldTest {
         Due.due("seed", x.drawn(1, 1000000, 0), Due.BAD);
         Due.due("what", x.drawn(1, 1, 2), Due.BAD);
         Due.due("what", x.drawn(1, 1, -1), Due.BAD);
+        x.lift(0, 0);
+        x.fall(0);
+        Due.due("what was before does not count", x.drawn(3, 1, 0), 27);
+        Due.due("what was before does not count", x.drawn(3, 1, 1), 1);
+        NineDown z = Due.told("y1,0,0;k5,1;t5;");
+        Due.due("one bike, lifted, fallen, lifted, fallen, lifted", z.drawn(3, 1, 0), 15);
+        Due.due("one bike", z.drawn(3, 1, 1), 2);
         NineDown y = Due.told("y1,0,0;k1,1;");
         Due.due("no lifters", y.drawn(60, 999999, 0), 0);
         Due.due("no lifters", y.drawn(60, 999999, 1), 0);

@@ -39,13 +39,23 @@ public final class RowsTest {
         Due.due("BAD ahead of SIZE", x.row(1, 3, -1), Due.BAD);
         Due.due("BAD ahead of SIZE", x.row(8, 0, Integer.MIN_VALUE), Due.BAD);
         Due.due("count(0)", x.count(0), 2);
-        Due.due("set", x.set(7, 39, 5), 5);
-        Due.due("row in place", x.row(7, 1, 40), 40);
-        Due.due("row(1,1,40)", x.row(1, 1, 40), 40);
-        Due.due("set of the other one", x.set(1, 0, 9), 9);
-        Due.due("a row in place begins with 0", x.copy(7, 39, 1, 0, 1), 1);
+        beginsWithNone(x);
         Due.due("n -1 leaves a row", x.row(7, 0, -1), Due.SIZE);
         Due.due("n -1 leaves a row", x.drop(7), 40);
+    }
+
+    /** Where 1 at a place tells the one bike, first() answers otherwise than where 0 does. */
+    private static void beginsWithNone(NineDown x) {
+        Due.tell(x, "y1,0,0;k1,1;");
+        for (int i = 0; i < 40; i++) {
+            Due.due("0 at first", x.first(7, i), 0);
+            Due.due("set", x.set(7, i, 1), 1);
+            Due.due("1", x.first(7, i), 257);
+        }
+        Due.due("row in place", x.row(7, 1, 40), 40);
+        for (int i = 0; i < 40; i++) {
+            Due.due("0 anew", x.first(7, i), 0);
+        }
     }
 
     private static void sets() {

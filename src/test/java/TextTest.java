@@ -166,5 +166,29 @@ public final class TextTest {
         Due.due("hold", x.hold(0, 3), 0);
         Due.due("catches", x.bike(0, 4), 1);
         Due.due("undo", x.undo(), Due.STATE);
+        nothingIsLeft(x);
+    }
+
+    /** Of the yards before, both those that the object can have kept, nothing shows in the next. */
+    private static void nothingIsLeft(NineDown x) {
+        for (int i = 0; i < 3; i++) {
+            Due.tell(x, Due.FIVE);
+            x.lift(0, 0);
+            x.loosen(2);
+        }
+        Due.tell(x, "y9,0,0;k1,1;k1,1;k1,1;");
+        Due.due("down", x.stand(2), 7);
+        Due.due("free", x.stand(3), 7);
+        Due.due("seconds", x.stand(0), 0);
+        Due.due("falls", x.stand(1), 0);
+        Due.due("holds", x.count(2), 0);
+        Due.due("lifters", x.count(3), 0);
+        Due.due("catches", x.bike(1, 4), 0);
+        Due.tell(x, "y9,0,0;k1,1;k1,1;k1,1;c0,1;c0,2;c1,2;");
+        for (int hold = 0; hold < 3; hold++) {
+            Due.due("holds", x.hold(hold, 3), 0);
+            Due.due("catches", x.bike(hold, 4), 2);
+        }
+        Due.due("down", x.stand(2), 7);
     }
 }
