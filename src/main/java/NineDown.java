@@ -25,6 +25,8 @@ public final class NineDown {
     private final Yard[] images = new Yard[IMAGES];
     private final Acts acts = new Acts();
     private final Trace traced = new Trace();
+    /** By a KIND, one of it: as whom a LIFTER is tried, with that one's FORCE. */
+    private final Lifter[] guises = new Lifter[KINDS + 1];
     /** The least cost of a BIKE's lift, by the BIKE and how many CATCHES it has. */
     private final int[] liftCost = new int[BIKES * BIKES];
     /** The least cost till all are UP, by the BIKES (bits) that are DOWN. */
@@ -39,6 +41,9 @@ public final class NineDown {
         }
         for (int i = 0; i < IMAGES; i++) {
             images[i] = new Yard();
+        }
+        for (int kind = 1; kind <= KINDS; kind++) {
+            guises[kind] = lifterOf(kind, 0, 0);
         }
     }
 
@@ -395,7 +400,8 @@ public final class NineDown {
         }
         int kinds = 0;
         for (int kind = 1; kind <= KINDS; kind++) {
-            kinds |= liftsAs(lifterOf(kind, one.number, one.force), told, i, n) ? 1 << kind : 0;
+            guises[kind].force = one.force;
+            kinds |= liftsAs(guises[kind], told, i, n) ? 1 << kind : 0;
         }
         return clean(kinds);
     }
@@ -797,7 +803,7 @@ public final class NineDown {
         private boolean readBikes(Yard y) {
             boolean good = sign('k');
             for (int i = 0; i <= BIKES && good && token == 'k'; i++) {
-                good = readBike(y);
+                good = readBike(y) && endOfPart();
             }
             return good;
         }
@@ -814,13 +820,13 @@ public final class NineDown {
                 return false;
             }
             y.addBike(weight, value);
-            return endOfPart();
+            return true;
         }
 
         private boolean readHolds(Yard y) {
             boolean good = true;
             for (int i = 0; i <= HOLDS && good && (token == 'o' || token == 'c'); i++) {
-                good = readHold(y, token == 'o' ? LIES_ON : CAUGHT);
+                good = readHold(y, token == 'o' ? LIES_ON : CAUGHT) && endOfPart();
             }
             return good;
         }
@@ -840,13 +846,13 @@ public final class NineDown {
                 return refuse(2);
             }
             y.addHold(sort, a, value);
-            return endOfPart();
+            return true;
         }
 
         private boolean readLifters(Yard y) {
             boolean good = true;
             for (int i = 0; i <= LIFTERS && good && kindTold() != 0; i++) {
-                good = readLifter(y, kindTold());
+                good = readLifter(y, kindTold()) && endOfPart();
             }
             return good && (token == END || refuse(1));
         }
@@ -859,7 +865,7 @@ public final class NineDown {
                 return false;
             }
             y.addLifter(kind, value);
-            return endOfPart();
+            return true;
         }
 
         private int kindTold() {
@@ -932,8 +938,9 @@ public final class NineDown {
             token = next - start <= 2 ? FIGURES : NO_TOKEN;
         }
 
+        /** Compares by itself: calls may go eight deep, and this is the eighth. */
         private static boolean isFigure(int letter) {
-            return within(letter, '0', '9');
+            return letter >= '0' && letter <= '9';
         }
     }
 
@@ -1251,7 +1258,7 @@ public final class NineDown {
     /** One who lifts: by its KIND, what it manages, how long it takes, what it answers to asks. */
     private abstract static class Lifter {
         final int number;
-        final int force;
+        int force;
 
         Lifter(int number, int force) {
             this.number = number;

@@ -3,11 +3,11 @@ public final class AskedTest {
     private static final String ALL = "y3,2,4;k9,2;k12,3;k20,5;p10;g5;n9;f20;";
 
     public static void main(String[] args) {
-        kinds();
-        as();
-        asks();
-        traces();
-        counts();
+        Due.test("Asked: kinds", AskedTest::kinds);
+        Due.test("Asked: as", AskedTest::as);
+        Due.test("Asked: asks", AskedTest::asks);
+        Due.test("Asked: traces", AskedTest::traces);
+        Due.test("Asked: counts", AskedTest::counts);
         Due.end();
     }
 

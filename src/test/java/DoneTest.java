@@ -1,17 +1,17 @@
 /** Promises 9 to 17, and 30, 31: what is done, undone, kept. */
 public final class DoneTest {
     public static void main(String[] args) {
-        bikesAndHolds();
-        takes();
-        lifts();
-        loosens();
-        falls();
-        spaces();
-        stands();
-        undoes();
-        forgets();
-        forgetsEachRow();
-        images();
+        Due.test("Done: bikesAndHolds", DoneTest::bikesAndHolds);
+        Due.test("Done: takes", DoneTest::takes);
+        Due.test("Done: lifts", DoneTest::lifts);
+        Due.test("Done: loosens", DoneTest::loosens);
+        Due.test("Done: falls", DoneTest::falls);
+        Due.test("Done: spaces", DoneTest::spaces);
+        Due.test("Done: stands", DoneTest::stands);
+        Due.test("Done: undoes", DoneTest::undoes);
+        Due.test("Done: forgets", DoneTest::forgets);
+        Due.test("Done: forgetsEachRow", DoneTest::forgetsEachRow);
+        Due.test("Done: images", DoneTest::images);
         Due.end();
     }
 

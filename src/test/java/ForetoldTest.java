@@ -1,19 +1,19 @@
 /** Promises 18 to 29: what is foretold changes nothing. */
 public final class ForetoldTest {
     public static void main(String[] args) {
-        soonest();
-        gentlest();
-        ties();
-        nevers();
-        fetches();
-        layers();
-        fells();
-        firsts();
-        widens();
-        plans();
-        whos();
-        seens();
-        drawns();
+        Due.test("Foretold: soonest", ForetoldTest::soonest);
+        Due.test("Foretold: gentlest", ForetoldTest::gentlest);
+        Due.test("Foretold: ties", ForetoldTest::ties);
+        Due.test("Foretold: nevers", ForetoldTest::nevers);
+        Due.test("Foretold: fetches", ForetoldTest::fetches);
+        Due.test("Foretold: layers", ForetoldTest::layers);
+        Due.test("Foretold: fells", ForetoldTest::fells);
+        Due.test("Foretold: firsts", ForetoldTest::firsts);
+        Due.test("Foretold: widens", ForetoldTest::widens);
+        Due.test("Foretold: plans", ForetoldTest::plans);
+        Due.test("Foretold: whos", ForetoldTest::whos);
+        Due.test("Foretold: seens", ForetoldTest::seens);
+        Due.test("Foretold: drawns", ForetoldTest::drawns);
         Due.end();
     }
 

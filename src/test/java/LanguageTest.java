@@ -24,9 +24,10 @@ public final class LanguageTest {
     };
 
     public static void main(String[] args) throws Exception {
-        face();
-        classes();
-        source(Files.readString(Path.of("src/main/java/NineDown.java")));
+        String text = Files.readString(Path.of("src/main/java/NineDown.java"));
+        Due.test("Language: the face", LanguageTest::face);
+        Due.test("Language: the classes inside", LanguageTest::classes);
+        Due.test("Language: the words", () -> source(text));
         Due.end();
     }
 
@@ -42,7 +43,7 @@ public final class LanguageTest {
         return t.append(')').toString();
     }
 
-    private static void face() throws Exception {
+    private static void face() {
         TreeSet<String> wanted = new TreeSet<>(java.util.List.of(FACE));
         TreeSet<String> there = new TreeSet<>();
         TreeSet<String> names = new TreeSet<>();

@@ -19,13 +19,14 @@ public final class ModelTest {
     public static void main(String[] args) {
         long told = args.length > 0 ? Long.parseLong(args[0]) : 1;
         int runs = args.length > 1 ? Integer.parseInt(args[1]) : RUNS;
-        for (int run = 0; run < runs; run++) {
-            if (!new ModelTest(told * 1000003 + run).agrees()) {
-                System.out.println("in the run of seed " + told + ", " + run);
-                System.exit(1);
+        Due.test("Model: " + runs + " drawn runs of " + CALLS + " calls", () -> {
+            boolean good = true;
+            for (int run = 0; run < runs && good; run++) {
+                good = new ModelTest(told * 1000003 + run).agrees();
+                Due.due("the run of seed " + told + ", " + run, good ? 1 : 0, 1);
             }
-        }
-        System.out.println(runs + " runs of " + CALLS + " calls agree");
+        });
+        Due.end();
     }
 
     private boolean agrees() {

@@ -6,6 +6,12 @@ public final class RoomTest {
         (com.sun.management.ThreadMXBean) ManagementFactory.getThreadMXBean();
 
     public static void main(String[] args) {
+        Due.test("Room: calls make nothing", RoomTest::calls);
+        Due.test("Room: an object is small", RoomTest::objects);
+        Due.end();
+    }
+
+    private static void calls() {
         NineDown x = Due.told(Due.FIVE);
         for (int warm = 0; warm < 3; warm++) {
             round(x);
@@ -15,18 +21,21 @@ public final class RoomTest {
             round(x);
         }
         long each = (ROOM.getThreadAllocatedBytes(Thread.currentThread().getId()) - before) / 100;
-        Due.due("bytes made by a round of calls (" + each + ") are at most 240", each <= 240 ? 1 : 0, 1);
-        before = ROOM.getThreadAllocatedBytes(Thread.currentThread().getId());
+        // the count itself may make a little
+        Due.due("bytes made by a round of calls (" + each + ") are none", each <= 8 ? 1 : 0, 1);
+    }
+
+    private static void objects() {
+        long before = ROOM.getThreadAllocatedBytes(Thread.currentThread().getId());
         NineDown[] many = new NineDown[100];
         for (int i = 0; i < 100; i++) {
             many[i] = new NineDown();
         }
         long one = (ROOM.getThreadAllocatedBytes(Thread.currentThread().getId()) - before) / 100;
         Due.due("bytes of an object (" + one + ") are at most 10000", one <= 10000 && many[99].status() == 0 ? 1 : 0, 1);
-        Due.end();
     }
 
-    /** Every call but feed and yard, whose lifters are all that they make; who() makes five lifters. */
+    /** Every call but feed and yard: a lifter each, as yard() reads it, is all that is made. */
     private static long round(NineDown x) {
         long sum = x.row(0, 1, 40) + x.set(0, 0, 0) + x.set(0, 1, 9) + x.copy(0, 0, 0, 2, 8) + x.row(1, 0, 3) + x.drop(1);
         sum += x.lift(1, 0) + x.loosen(2) + x.fall(0) + x.space(1, 5) + x.undo() + x.undo() + x.undo() + x.undo();

@@ -1,12 +1,12 @@
 /** Promises 1 to 5, and 37 as far as rows go. */
 public final class RowsTest {
     public static void main(String[] args) {
-        newObject();
-        rows();
-        sets();
-        copies();
-        drops();
-        statuses();
+        Due.test("Rows: newObject", RowsTest::newObject);
+        Due.test("Rows: rows", RowsTest::rows);
+        Due.test("Rows: sets", RowsTest::sets);
+        Due.test("Rows: copies", RowsTest::copies);
+        Due.test("Rows: drops", RowsTest::drops);
+        Due.test("Rows: statuses", RowsTest::statuses);
         Due.end();
     }
 

@@ -4,13 +4,13 @@ public final class TextTest {
     private static final String BIKE = "k1,1;";
 
     public static void main(String[] args) {
-        tape();
-        lawFaults();
-        bikeFaults();
-        holdFaults();
-        lifterFaults();
-        tokenFaults();
-        standing();
+        Due.test("Text: tape", TextTest::tape);
+        Due.test("Text: lawFaults", TextTest::lawFaults);
+        Due.test("Text: bikeFaults", TextTest::bikeFaults);
+        Due.test("Text: holdFaults", TextTest::holdFaults);
+        Due.test("Text: lifterFaults", TextTest::lifterFaults);
+        Due.test("Text: tokenFaults", TextTest::tokenFaults);
+        Due.test("Text: standing", TextTest::standing);
         Due.end();
     }
 
