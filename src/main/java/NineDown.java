@@ -852,20 +852,18 @@ public final class NineDown {
         private boolean readLifters(Yard y) {
             boolean good = true;
             for (int i = 0; i <= LIFTERS && good && kindTold() != 0; i++) {
-                good = readLifter(y, kindTold()) && endOfPart();
+                int kind = kindTold();
+                good = readForce(y);
+                if (good) {
+                    y.addLifter(lifterOf(kind, y.lifters, value));
+                    good = endOfPart();
+                }
             }
             return good && (token == END || refuse(1));
         }
 
-        private boolean readLifter(Yard y, int kind) {
-            if (y.lifters >= LIFTERS) {
-                return refuse(3);
-            }
-            if (!number(1, 40)) {
-                return false;
-            }
-            y.addLifter(kind, value);
-            return true;
+        private boolean readForce(Yard y) {
+            return y.lifters < LIFTERS ? number(1, 40) : refuse(3);
         }
 
         private int kindTold() {
@@ -919,7 +917,7 @@ public final class NineDown {
                 return;
             }
             int letter = tape[next];
-            if (isFigure(letter)) {
+            if (letter >= '0' && letter <= '9') {
                 advanceNumber();
                 return;
             }
@@ -930,17 +928,12 @@ public final class NineDown {
 
         private void advanceNumber() {
             value = 0;
-            while (next < length && isFigure(tape[next])) {
+            while (next < length && tape[next] >= '0' && tape[next] <= '9') {
                 // a longer run is no TOKEN, whatever its value: it need not be kept whole
                 value = Math.min(value * 10 + tape[next] - '0', 1000);
                 next++;
             }
             token = next - start <= 2 ? FIGURES : NO_TOKEN;
-        }
-
-        /** Compares by itself: calls may go eight deep, and this is the eighth. */
-        private static boolean isFigure(int letter) {
-            return letter >= '0' && letter <= '9';
         }
     }
 
@@ -999,8 +992,8 @@ public final class NineDown {
             holds++;
         }
 
-        void addLifter(int kind, int force) {
-            crew[lifters] = lifterOf(kind, lifters, force);
+        void addLifter(Lifter one) {
+            crew[lifters] = one;
             lifters++;
         }
 

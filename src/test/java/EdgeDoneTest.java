@@ -25,6 +25,7 @@ public final class EdgeDoneTest {
         stand();
         undo();
         undoesEach();
+        undoesAlone();
         kept();
         forgotten();
         Due.end();
@@ -568,6 +569,52 @@ public final class EdgeDoneTest {
             Due.due("undo", x.undo(), 0);
             Due.due("GAP", x.bike(1, 1), 2);
         });
+    }
+
+    /** All that an ACT can change. */
+    private static long[] stood(NineDown x) {
+        long[] all = new long[14];
+        for (int i = 0; i < 3; i++) {
+            all[i] = x.stand(i);
+            all[3 + i] = x.bike(i, 1);
+            all[6 + i] = x.bike(i, 4);
+            all[9 + i] = x.hold(i, 3);
+        }
+        all[12] = x.stand(3);
+        all[13] = x.bike(3, 1);
+        return all;
+    }
+
+    /** An ACT behind others of all sorts: undone, all is as ahead of it, and the others are undone yet. */
+    private static void undone(String name, ToLongFunction<NineDown> act) {
+        Due.test("P9 undo: " + name + " and nothing else", () -> {
+            NineDown x = Due.told(LAW + "k4,11;k5,12;k6,13;k7,14;c0,1;c1,2;c2,3;o0,1;t9;p9;");
+            long[] first = stood(x);
+            x.space(2, 3);
+            x.lift(0, 0);
+            x.fall(0);
+            x.space(0, 9);
+            x.lift(1, 3);
+            x.loosen(2);
+            long[] ahead = stood(x);
+            Due.due("not refused", act.applyAsLong(x) > Due.NONE ? 1 : 0, 1);
+            Due.due("undo", x.undo(), 6);
+            Due.due("all is as ahead of it", java.util.Arrays.equals(stood(x), ahead) ? 1 : 0, 1);
+            for (int i = 5; i >= 0; i--) {
+                Due.due("undo", x.undo(), i);
+            }
+            Due.due("all is as at first", java.util.Arrays.equals(stood(x), first) ? 1 : 0, 1);
+        });
+    }
+
+    private static void undoesAlone() {
+        undone("a lift with FALLS", x -> x.lift(0, 0));
+        undone("a lift by a pair", x -> x.lift(1, 2));
+        undone("loosening hold 0", x -> x.loosen(0));
+        undone("loosening hold 1", x -> x.loosen(1));
+        undone("a fall", x -> x.fall(3));
+        undone("a GAP", x -> x.space(1, 20));
+        undone("the last one's GAP", x -> x.space(3, 1));
     }
 
     /** Acts of GAPS 1, 2, 3 .. by turns: the GAP tells how many ACTS there were. */

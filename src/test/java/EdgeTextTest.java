@@ -12,6 +12,7 @@ public final class EdgeTextTest {
         feed();
         tape();
         letters();
+        doubled();
         numbers();
         law();
         bikes();
@@ -155,6 +156,22 @@ public final class EdgeTextTest {
                 isFaulty(LAW + BIKE + "t1;" + b, "tfpgn".indexOf(b) >= 0 ? 16 : 15, 1);
             }
         });
+    }
+
+    /** A letter is a TOKEN by itself, also behind another one; what follows would be good without it. */
+    private static void doubled() {
+        faulty("part 1: two letters, y", "yy1,0,0;" + BIKE, 1, 1);
+        faulty("part 1: two letters, k", LAW + "kk1,1;", 8, 1);
+        faulty("part 1: two letters, k of a second bike", LAW + BIKE + "kk1,1;", 13, 1);
+        faulty("part 1: two letters, o", TWO + "oo0,1;", 18, 1);
+        faulty("part 1: two letters, c", TWO + "cc0,1;", 18, 1);
+        faulty("part 1: two letters, o and c", TWO + "oc0,1;", 18, 1);
+        faulty("part 1: two letters, o in place of B", TWO + "o0,o0,1;", 20, 1);
+        for (char sort : "tfpgn".toCharArray()) {
+            faulty("part 1: two letters, " + sort, LAW + BIKE + sort + sort + "1;", 13, 1);
+            faulty("part 1: two letters, t and " + sort, LAW + BIKE + "t" + sort + "1;", 13, 1);
+        }
+        faulty("part 1: two signs", LAW + "k1,,1;", 10, 1);
     }
 
     private static void numbers() {
@@ -354,34 +371,55 @@ public final class EdgeTextTest {
 
     private static void replaced() {
         String text = "y1,1,0;k1,1;k2,2;c0,1;t5;";
+        // again and again: an object may use a YARD of before for the next but one
         Due.test("part 1: a YARD that is read: SECOND 0", () -> {
             NineDown x = Due.told(text);
-            x.lift(0, 0);
-            Due.tell(x, text);
-            Due.due("count(4)", x.count(4), 0);
-            Due.due("stand(0)", x.stand(0), 0);
+            for (int i = 0; i < 4; i++) {
+                x.lift(0, 0);
+                x.drawn(9, 1, 0);
+                Due.tell(x, text);
+                Due.due("count(4)", x.count(4), 0);
+                Due.due("stand(0)", x.stand(0), 0);
+            }
         });
         Due.test("part 1: a YARD that is read: no FALLS", () -> {
             NineDown x = Due.told(text);
-            x.lift(0, 0);
-            Due.due("one so far", x.count(5), 1);
-            Due.tell(x, text);
-            Due.due("count(5)", x.count(5), 0);
-            Due.due("stand(1)", x.stand(1), 0);
+            for (int i = 0; i < 4; i++) {
+                x.lift(0, 0);
+                Due.due("one so far", x.count(5), 1);
+                Due.tell(x, text);
+                Due.due("count(5)", x.count(5), 0);
+                Due.due("stand(1)", x.stand(1), 0);
+            }
         });
         Due.test("part 1: a YARD that is read: all are DOWN", () -> {
             NineDown x = Due.told(text);
-            x.lift(0, 0);
-            Due.tell(x, text);
-            Due.due("stand(2)", x.stand(2), 3);
+            for (int i = 0; i < 4; i++) {
+                x.lift(0, 0);
+                Due.tell(x, text);
+                Due.due("stand(2)", x.stand(2), 3);
+            }
+        });
+        Due.test("part 1: a YARD that is read: only its own are DOWN", () -> {
+            NineDown x = new NineDown();
+            for (int i = 0; i < 3; i++) {
+                Due.tell(x, LAW + Due.times(BIKE, 8));
+            }
+            for (int i = 0; i < 3; i++) {
+                Due.tell(x, LAW + BIKE);
+                Due.due("stand(2)", x.stand(2), 1);
+                Due.due("stand(3)", x.stand(3), 1);
+            }
         });
         Due.test("part 1: a YARD that is read: all holds hold", () -> {
             NineDown x = Due.told(text);
-            x.loosen(0);
-            Due.tell(x, text);
-            Due.due("not LOOSE", x.hold(0, 3), 0);
-            Due.due("CATCHES", x.bike(0, 4), 1);
-            Due.due("CATCHES", x.bike(1, 4), 1);
+            for (int i = 0; i < 4; i++) {
+                x.loosen(0);
+                Due.tell(x, text);
+                Due.due("not LOOSE", x.hold(0, 3), 0);
+                Due.due("CATCHES", x.bike(0, 4), 1);
+                Due.due("CATCHES", x.bike(1, 4), 1);
+            }
         });
         Due.test("part 1: a YARD that is read: no ACT can be undone", () -> {
             NineDown x = Due.told(text);

@@ -479,6 +479,31 @@ public final class EdgeToldTest {
             Due.due("LOOSE", x.takes(1, 0, 0), 14);
             Due.due("FREE", x.stand(3), 3);
         });
+        Due.test("P31 restore: the law as kept", () -> {
+            NineDown x = Due.told("y3,5,7;k8,3;k8,4;k8,1;c0,1;f9;n9;");
+            x.image(0);
+            Due.tell(x, "y9,1,1;k8,3;k8,4;k8,1;c0,1;f9;n9;");
+            x.restore(0);
+            Due.due("REACH", x.fell(0, 1), 3);
+            Due.due("LOOSE", x.takes(0, 0, 0), 13);
+            Due.due("NOTE", x.takes(1, 2, 0), 11);
+        });
+        Due.test("P31 restore: the holds as kept", () -> {
+            NineDown x = Due.told(LAW + "k8,3;k8,4;k8,1;c2,1;o0,2;t9;");
+            x.image(0);
+            Due.tell(x, LAW + "k8,3;k8,4;k8,1;o1,0;c1,0;t9;");
+            x.restore(0);
+            int[][] holds = {{1, 2, 1, 0}, {0, 0, 2, 0}};
+            for (int hold = 0; hold < 2; hold++) {
+                for (int what = 0; what < 4; what++) {
+                    Due.due("hold(" + hold + ", " + what + ")", x.hold(hold, what), holds[hold][what]);
+                }
+            }
+            Due.due("FREE", x.stand(3), 3);
+            Due.due("CATCHES", x.bike(1, 4), 1);
+            Due.due("loosen", x.loosen(0), 5);
+            Due.due("CATCHES", x.bike(1, 4), 0);
+        });
         Due.test("P31 restore: rows, the tape, FAULT, THE TRACE are none of the YARD", () -> {
             NineDown x = Due.told(CAUGHT);
             x.image(0);

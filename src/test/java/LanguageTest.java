@@ -2,13 +2,20 @@ import java.lang.reflect.Constructor;
 import java.lang.reflect.Field;
 import java.lang.reflect.Method;
 import java.lang.reflect.Modifier;
+import java.io.PrintWriter;
+import java.io.StringWriter;
 import java.nio.file.Files;
 import java.nio.file.Path;
+import java.util.ArrayList;
+import java.util.List;
 import java.util.Map;
+import java.util.Optional;
+import java.util.Set;
 import java.util.TreeMap;
 import java.util.TreeSet;
 import java.util.regex.Matcher;
 import java.util.regex.Pattern;
+import java.util.spi.ToolProvider;
 
 /** The face of the document, and what of LANGUAGE.md can be seen by looking. */
 public final class LanguageTest {
@@ -28,6 +35,7 @@ public final class LanguageTest {
         Due.test("Language: the face", LanguageTest::face);
         Due.test("Language: the classes inside", LanguageTest::classes);
         Due.test("Language: the words", () -> source(text));
+        Due.test("Language: calls at most eight deep", LanguageTest::depth);
         Due.end();
     }
 
@@ -133,5 +141,73 @@ public final class LanguageTest {
         for (Map.Entry<String, Integer> one : lengths.entrySet()) {
             is(one.getKey() + " has " + one.getValue() + " lines", one.getValue() <= 60);
         }
+    }
+
+    /** How deep calls go, by the class files; a call of a method that is overridden may be any of them. */
+    private static void depth() {
+        Optional<ToolProvider> javap = ToolProvider.findFirst("javap");
+        if (javap.isEmpty()) {
+            is("without javap it can not be seen", true);
+            return;
+        }
+        String from = NineDown.class.getProtectionDomain().getCodeSource().getLocation().getPath();
+        Map<String, Set<String>> calls = new TreeMap<>();
+        for (Class<?> c : all()) {
+            StringWriter out = new StringWriter();
+            javap.get().run(new PrintWriter(out), new PrintWriter(out), "-c", "-p", "-cp", from, c.getName());
+            note(c.getName(), out.toString(), calls);
+        }
+        int deepest = 0;
+        for (String method : calls.keySet()) {
+            int deep = deep(method, calls, 0);
+            is("calls from " + method + " go " + deep + " deep", deep <= 8);
+            deepest = Math.max(deepest, deep);
+        }
+        is("calls were found", deepest > 3);
+    }
+
+    private static List<Class<?>> all() {
+        List<Class<?>> all = new ArrayList<>(List.of(NineDown.class.getDeclaredClasses()));
+        all.add(NineDown.class);
+        return all;
+    }
+
+    private static void note(String name, String code, Map<String, Set<String>> calls) {
+        Pattern head = Pattern.compile("^  .*?(\\S+)\\(.*\\);$");
+        Pattern call = Pattern.compile("(invoke\\w+) .*// Method (?:([\\w$/]+)\\.)?\"?([\\w<>]+)\"?:");
+        String at = "";
+        for (String line : code.split("\n")) {
+            Matcher begins = head.matcher(line);
+            Matcher calling = call.matcher(line);
+            if (begins.matches()) {
+                at = name + "." + (begins.group(1).equals(name) ? "<init>" : begins.group(1));
+                calls.put(at, new TreeSet<>());
+            } else if (calling.find()) {
+                String of = calling.group(2) == null ? name : calling.group(2);
+                boolean may = calling.group(1).equals("invokevirtual");
+                for (Class<?> c : all()) {
+                    boolean same = c.getName().equals(of);
+                    if (same || may && extendsOne(c, of)) {
+                        calls.get(at).add(c.getName() + "." + calling.group(3));
+                    }
+                }
+            }
+        }
+    }
+
+    private static boolean extendsOne(Class<?> c, String name) {
+        Class<?> up = c.getSuperclass();
+        return up != null && (up.getName().equals(name) || extendsOne(up, name));
+    }
+
+    private static int deep(String method, Map<String, Set<String>> calls, int so) {
+        int most = 0;
+        if (so > 50) {
+            return 1000;
+        }
+        for (String called : calls.getOrDefault(method, Set.of())) {
+            most = Math.max(most, deep(called, calls, so + 1));
+        }
+        return calls.containsKey(method) ? most + 1 : most;
     }
 }
