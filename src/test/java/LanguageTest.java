@@ -93,12 +93,16 @@ public final class LanguageTest {
         is("at most twelve classes", inside.length + 1 <= 12);
         for (Class<?> c : inside) {
             is(c + " is static", Modifier.isStatic(c.getModifiers()));
+            is(c + " is private or package-visible", (c.getModifiers() & (Modifier.PUBLIC | Modifier.PROTECTED)) == 0);
             is(c + " has none inside", c.getDeclaredClasses().length == 0);
+        }
+        for (Class<?> c : all()) {
             int fields = 0;
             for (Field f : c.getDeclaredFields()) {
                 boolean fixed = Modifier.isStatic(f.getModifiers());
                 fields += fixed ? 0 : 1;
                 is(f + " is final", !fixed || Modifier.isFinal(f.getModifiers()));
+                is(f + " is a constant of int", !fixed || f.getType() == int.class);
             }
             is(c + " has at most twenty fields", fields <= 20);
             for (Method m : c.getDeclaredMethods()) {
