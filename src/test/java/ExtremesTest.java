@@ -5,8 +5,9 @@ import java.util.Comparator;
 import java.util.List;
 
 /**
- * Every call with every row of numbers at and beyond the limits, in several states: it never throws, and
- * answers as the model does. Objects are made anew before they have had 512 calls.
+ * Every call with all combinations of a list of numbers at and beyond the limits, in several states: it never
+ * throws, and answers as the model does. The more numbers a call takes, the shorter the list, so that it ends
+ * soon. Objects are made anew before they have had 512 calls.
  */
 public final class ExtremesTest {
     private static final int MOST = Integer.MAX_VALUE, LEAST = Integer.MIN_VALUE;
